@@ -4,6 +4,8 @@ public final class PromisesTest {
     private static final int TOP = 1048575;
     private static final int LEAST = Integer.MIN_VALUE;
     private static final int MOST = Integer.MAX_VALUE;
+    // Its one bit would spill into the number before it, if the numbers of a key were joined unlooked at.
+    private static final int SPILLS = 2 << 20;
     private static final int[] NO_NUMBERS = {-1, TOP + 1, LEAST, MOST};
 
     private static int wrong = 0;
@@ -160,6 +162,8 @@ public final class PromisesTest {
             due("5: c " + none, index.count(3, 1, 1, none), 0);
             due("5: n " + none, index.count(none, 1, 1, 1), BAD);
         }
+        due("5: b that spills", index.count(2, 2, SPILLS, 0), 0);
+        due("5: c that spills", index.count(3, 2, 7, SPILLS | 7), 0);
         due("5: n 4", index.count(4, -1, 0, 0), BAD);
         due("5: n -1", index.count(-1, -1, 0, 0), BAD);
         index.insert(TOP, TOP, TOP);
@@ -195,6 +199,7 @@ public final class PromisesTest {
             due("6: a " + none, index.different(1, none, 0), 0);
             due("6: b " + none, index.different(2, 1, none), 0);
         }
+        due("6: b that spills", index.different(2, 2, SPILLS), 0);
         due("6: n 3", index.different(3, 1, 1), BAD);
         due("6: n -1", index.different(-1, 1, 1), BAD);
         due("6: n least", index.different(LEAST, 1, 1), BAD);
@@ -373,6 +378,8 @@ public final class PromisesTest {
             due("15: b " + none, index.cut(2, 1, none, 0), 0);
             due("15: c " + none, index.cut(3, 1, 1, none), 0);
         }
+        due("15: b that spills", index.cut(2, 2, SPILLS, 0), 0);
+        due("15: c that spills", index.cut(3, 2, 7, SPILLS | 7), 0);
         due("15: nothing goes", index.size(), 7);
         due("15: three", index.cut(3, 1, 1, 5), 1);
         due("15: three again", index.cut(3, 1, 1, 5), 0);
