@@ -205,7 +205,8 @@ public final class PageIndex {
         return areFirstNumbers(n, a, b, c) ? keysBefore(firstKey(n, a, b, c) + keysInAll(n)) : 0;
     }
 
-    // Steps that halve end after fifteen rounds, whatever the row holds.
+    // Steps that halve end after fifteen rounds, whatever the row holds. The answer is 0 .. held, as only what is
+    // not above held is taken: so it is a place in the row, or the one just behind what is held.
     private int keysBefore(long key) {
         int before = 0;
         for (int step = FIRST_STEP; step > 0; step = step / 2) {
@@ -238,6 +239,7 @@ public final class PageIndex {
         return found;
     }
 
+    // Fewer than MOST_TRIPLES are held when one is put in: so a row that has no room left can be made longer.
     private void putIn(int at, long key) {
         if (held == keys.length) {
             keys = Arrays.copyOf(keys, Math.min(2 * held, MOST_TRIPLES));
@@ -247,6 +249,7 @@ public final class PageIndex {
         held++;
     }
 
+    // 0 <= from <= to <= held: a part that keysBefore() told, one key that was found, or nothing.
     private void takeOut(int from, int to) {
         System.arraycopy(keys, to, keys, from, held - to);
         held -= to - from;

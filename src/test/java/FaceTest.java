@@ -8,9 +8,11 @@ import java.nio.file.Path;
 import java.util.HashSet;
 import java.util.Set;
 import java.util.TreeSet;
+import java.util.regex.Matcher;
 import java.util.regex.Pattern;
+import java.util.stream.Stream;
 
-/** The public face is the document's and no more, and the source keeps clear of words that LANGUAGE.md rules out. */
+/** The public face is the document's and no more, and what class and source tell of LANGUAGE.md's rules holds. */
 public final class FaceTest {
     private static final Path SOURCE = Path.of("src/main/java/PageIndex.java");
 
@@ -32,6 +34,13 @@ public final class FaceTest {
         "public int PageIndex.stands()",
         "public int PageIndex.size()",
         "public int PageIndex.cut(int,int,int,int)");
+
+    // What the program uses of the library that rule 4 leaves; another of it is to be added here first.
+    private static final Set<String> LIBRARY = Set.of(
+        "java.util", "Arrays.copyOf", "Math.floorMod", "Math.min", "System.arraycopy");
+
+    private static final int MOST_PARAMETERS = 7;
+    private static final int MOST_FIELDS = 20;
 
     private static final String[] RULED_OUT = {
         "\\b(throw|throws|try|catch|synchronized|assert|package)\\b", "->", "::", "Exact\\b", "\\bstatic\\s*\\{"
@@ -79,8 +88,51 @@ public final class FaceTest {
         return faults;
     }
 
-    private static int sourceFaults() throws IOException {
-        String code = Files.readString(SOURCE).replaceAll("(?s)/\\*.*?\\*/", " ").replaceAll("//[^\n]*", " ");
+    private static int fault(boolean found, String what) {
+        if (found) {
+            System.out.println(what);
+        }
+        return found ? 1 : 0;
+    }
+
+    private static int shapeFaults() {
+        int faults = 0;
+        int fields = 0;
+        for (Field field : PageIndex.class.getDeclaredFields()) {
+            boolean shared = Modifier.isStatic(field.getModifiers());
+            boolean fixed = Modifier.isFinal(field.getModifiers());
+            faults += fault(shared && !fixed, "a static field that is not final: " + field.getName());
+            fields += shared ? 0 : 1;
+        }
+        faults += fault(fields > MOST_FIELDS, fields + " fields");
+        for (Method method : PageIndex.class.getDeclaredMethods()) {
+            boolean many = method.getParameterCount() > MOST_PARAMETERS;
+            faults += fault(many, "too many parameters: " + method.getName());
+        }
+        return faults;
+    }
+
+    private static int libraryFaults(String code) {
+        int faults = 0;
+        Matcher used = Pattern.compile("\\b([A-Z][a-zA-Z]*|java)\\.([a-z]\\w*)").matcher(code);
+        while (used.find()) {
+            faults += fault(!LIBRARY.contains(used.group()), "not looked at as library: " + used.group());
+        }
+        return faults;
+    }
+
+    private static int fileFaults() throws IOException {
+        try (Stream<Path> files = Files.walk(SOURCE.getParent())) {
+            long many = files.filter(Files::isRegularFile).count();
+            return fault(many != 1, "the program has " + many + " files");
+        }
+    }
+
+    private static String code() throws IOException {
+        return Files.readString(SOURCE).replaceAll("(?s)/\\*.*?\\*/", " ").replaceAll("//[^\n]*", " ");
+    }
+
+    private static int sourceFaults(String code) {
         int faults = 0;
         for (String pattern : RULED_OUT) {
             if (Pattern.compile(pattern).matcher(code).find()) {
@@ -92,7 +144,8 @@ public final class FaceTest {
     }
 
     public static void main(String[] args) throws IOException {
-        int faults = faceFaults() + sharedNames() + sourceFaults();
+        String code = code();
+        int faults = faceFaults() + sharedNames() + shapeFaults() + sourceFaults(code) + libraryFaults(code) + fileFaults();
         int modifiers = PageIndex.class.getModifiers();
         if (!Modifier.isPublic(modifiers) || !Modifier.isFinal(modifiers)) {
             System.out.println("the class is not public and final");
